@@ -669,10 +669,10 @@ public final class BrandRoom {
         }
 
         Booking(Booking other) {
-            copyFrom(other);
+            setTo(other);
         }
 
-        private void copyFrom(Booking other) {
+        private void setTo(Booking other) {
             piece = other.piece;
             land = other.land;
             medium = other.medium;
@@ -776,7 +776,7 @@ public final class BrandRoom {
             for (int i = 0; i < other.bookings.size(); i++) {
                 Booking row = other.bookings.get(i);
                 if (i < bookings.size()) {
-                    bookings.get(i).copyFrom(row);
+                    bookings.get(i).setTo(row);
                 } else {
                     bookings.add(new Booking(row));
                 }

@@ -112,6 +112,14 @@ public final class AssetsTest {
         room.asset();
         room.version(2, 98);
         check.due("late(2, 20)", room.late(2, 20), 99);
+
+        room.asset();
+        for (int k = 0; k < 5; k++) {
+            room.version(3, 10 + k);
+        }
+        check.due("late(3, 6) of the fifth version", room.late(3, 6), 20);
+        check.due("versionOn(3, 19)", room.versionOn(3, 19), 3);
+        check.due("versionOn(3, 20)", room.versionOn(3, 20), 4);
     }
 
     private static void lateIsOfTheGreatestNumber() {

@@ -47,7 +47,7 @@ final class Check {
         throwing(call, room, IllegalStateException.class, body);
     }
 
-    /** The very class is due, not one below it, which the Java machine would throw; and nothing changes. */
+    /** BrandRoom itself has to throw the very class, not the Java machine or the library; and nothing changes. */
     private void throwing(String call, BrandRoom room, Class<?> want, Runnable body) {
         seen++;
         long before = room.digest();
@@ -58,10 +58,18 @@ final class Check {
             if (thrown.getClass() != want) {
                 report(call + " threw " + thrown + ", due is " + want.getSimpleName());
             }
+            if (!isThrownByRoom(thrown)) {
+                report(call + " let another class throw: " + thrown);
+            }
         }
         if (room.digest() != before) {
             report(call + " threw, and changed something");
         }
+    }
+
+    static boolean isThrownByRoom(RuntimeException thrown) {
+        StackTraceElement[] trace = thrown.getStackTrace();
+        return trace.length > 0 && trace[0].getClassName().equals("BrandRoom");
     }
 
     private void report(String text) {

@@ -6,6 +6,7 @@ public final class PiecesTest {
         piece();
         pieceLimit();
         approve();
+        approveWithoutTheFirstAsset();
         hold();
         approvalIsForTheLook();
         reason();
@@ -84,6 +85,20 @@ public final class PiecesTest {
         check.due("approve(0, 0) with a new look", room.approve(0, 0), false);
         check.due("approve(0, 0) again", room.approve(0, 0), true);
         check.due("isFit(0, 3, 1) with the look that was approved there", room.isFit(0, 3, 1), false);
+    }
+
+    private static void approveWithoutTheFirstAsset() {
+        BrandRoom room = new BrandRoom();
+        room.asset();
+        room.asset();
+        room.asset();
+        room.version(1, 0);
+        room.version(2, 0);
+        room.piece(0, 7);
+        check.illegalState("approve(0, 0), the first asset is not there", room, () -> room.approve(0, 0));
+        check.due("reason(0, 0, 0)", room.reason(0, 0, 0), 1);
+        room.version(0, 0);
+        check.due("approve(0, 0)", room.approve(0, 0), false);
     }
 
     private static void hold() {

@@ -9,8 +9,10 @@ public final class WhatWouldBeTest {
         offIn();
         lostIn();
         lostInKnowsTheDays();
+        lostInKnowsThePlaces();
         lostInChangesNothing();
         digest();
+        digestLooksTwentyDaysAhead();
         check.end();
     }
 
@@ -190,6 +192,21 @@ public final class WhatWouldBeTest {
         check.due("TODAY", end.many(10), 99);
     }
 
+    private static void lostInKnowsThePlaces() {
+        BrandRoom room = Desks.ready();
+        room.hold(0, 0);
+        room.hold(0, 1);
+        room.book(0, 0, 1, 5, 5, 1);
+        room.book(0, 0, 2, 7, 7, 1);
+        room.book(0, 1, 1, 5, 5, 1);
+        check.due("lostIn(2), each in a place of its own", room.lostIn(2), 0);
+        room.book(0, 0, 1, 7, 7, 1);
+        check.due("lostIn(2), one behind another", room.lostIn(2), 1);
+        room.piece(0, 1);
+        room.approve(1, 0);
+        check.due("lostIn(2), one can be swapped", room.lostIn(2), 0);
+    }
+
     private static void lostInChangesNothing() {
         BrandRoom room = Desks.ready();
         room.piece(0, 1);
@@ -221,6 +238,9 @@ public final class WhatWouldBeTest {
         room.asset();
         room.asset();
         room.version(0, 1);
+        room.version(0, 1);
+        room.version(1, 1);
+        room.version(1, 1);
         room.version(1, 1);
         room.version(1, 9);
         room.rights(0, 15, 0, 50);
@@ -241,6 +261,20 @@ public final class WhatWouldBeTest {
         Desks.days(room, 2);
         check.due("digest() on day 3", room.digest(), digestOf(room));
         check.due("digest() again: nothing is changed", room.digest(), digestOf(room));
+    }
+
+    private static void digestLooksTwentyDaysAhead() {
+        BrandRoom room = Desks.ready();
+        room.hold(0, 0);
+        room.book(0, 0, 0, 24, 24, 1);
+        room.book(0, 0, 0, 26, 26, 1);
+        check.due("lostIn(20)", room.lostIn(20), 0);
+        check.due("lostIn(21)", room.lostIn(21), 1);
+        check.due("digest()", room.digest(), digestOf(room));
+        room.day();
+        check.due("lostIn(20)", room.lostIn(20), 1);
+        check.due("digest()", room.digest(), digestOf(room));
+        check.due("lostIn(19)", room.lostIn(19), 0);
     }
 
     private static long digestOf(BrandRoom room) {
