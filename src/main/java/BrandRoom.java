@@ -30,7 +30,6 @@ public final class BrandRoom {
     private static final int LOST = 4;
 
     private final ArrayList<Asset> assets;
-    private final ArrayList<Piece> pieces;
     private final int[] groupSets;
     private final Plan plan;
     /** What would be is tried out here, so that the plan itself stays as it is. */
@@ -38,10 +37,9 @@ public final class BrandRoom {
 
     public BrandRoom() {
         assets = new ArrayList<>();
-        pieces = new ArrayList<>();
         groupSets = new int[MEDIA * LANDS];
-        plan = new Plan(pieces);
-        trial = new Plan(pieces);
+        plan = new Plan();
+        trial = new Plan();
     }
 
     // ---- assets
@@ -121,16 +119,16 @@ public final class BrandRoom {
         if (assets < 1 || (assets >> this.assets.size()) != 0) {
             throw new IllegalArgumentException("assets is empty, or has one that there is not");
         }
-        if (pieces.size() >= MAX_PIECES) {
+        if (plan.pieces.size() >= MAX_PIECES) {
             throw new IllegalStateException("there are 12 pieces");
         }
-        Piece added = new Piece(pieces.size(), format, assets);
+        Piece added = new Piece(plan.pieces.size(), format, assets);
         for (int k = 0; k < this.assets.size(); k++) {
             if ((assets >> k & 1) != 0) {
                 added.parts.add(this.assets.get(k));
             }
         }
-        pieces.add(added);
+        plan.pieces.add(added);
         return added.number;
     }
 
@@ -274,7 +272,7 @@ public final class BrandRoom {
             case 0:
                 return assets.size();
             case 1:
-                return pieces.size();
+                return plan.pieces.size();
             case 2:
                 return plan.bookings.size();
             case 3:
@@ -373,7 +371,7 @@ public final class BrandRoom {
             sum = sum * 31 + versionOn(i, plan.today);
             sum = sum * 31 + versionOn(i, LAST_DAY);
         }
-        for (int i = 0; i < pieces.size(); i++) {
+        for (int i = 0; i < plan.pieces.size(); i++) {
             sum = addPiece(sum, i);
         }
         for (int i = 0; i < plan.bookings.size(); i++) {
@@ -428,10 +426,10 @@ public final class BrandRoom {
     }
 
     private Piece pieceAt(int number) {
-        if (number < 0 || number >= pieces.size()) {
+        if (number < 0 || number >= plan.pieces.size()) {
             throw new IndexOutOfBoundsException("no such piece");
         }
-        return pieces.get(number);
+        return plan.pieces.get(number);
     }
 
     private Booking bookingAt(int number) {
@@ -758,21 +756,18 @@ public final class BrandRoom {
         }
     }
 
-    /** TODAY and the bookings: all that changes as a day begins. */
+    /** TODAY, the bookings, which change as a day begins, and the pieces that may be swapped for theirs. */
     private static final class Plan {
         private static final int EARLY_AHEAD = 10;
 
-        private final ArrayList<Piece> pieces;
         private final ArrayList<Booking> bookings = new ArrayList<>();
+        private ArrayList<Piece> pieces = new ArrayList<>();
         private int today = 0;
 
-        Plan(ArrayList<Piece> pieces) {
-            this.pieces = pieces;
-        }
-
-        /** Uses its rows again, as no row ever goes and a run may ask often. */
+        /** Uses its rows again, as a run may ask often; no day changes a piece, so the pieces are shared. */
         void copyFrom(Plan other) {
             today = other.today;
+            pieces = other.pieces;
             for (int i = 0; i < other.bookings.size(); i++) {
                 Booking row = other.bookings.get(i);
                 if (i < bookings.size()) {
