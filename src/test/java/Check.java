@@ -47,10 +47,17 @@ final class Check {
         throwing(call, room, IllegalStateException.class, body);
     }
 
-    /** BrandRoom itself has to throw the very class, not the Java machine or the library; and nothing changes. */
     private void throwing(String call, BrandRoom room, Class<?> want, Runnable body) {
-        seen++;
         long before = room.digest();
+        dueThrown(call, want, body);
+        if (room.digest() != before) {
+            report(call + " threw, and changed something");
+        }
+    }
+
+    /** BrandRoom itself has to throw the very class, not the Java machine or the library. */
+    void dueThrown(String call, Class<?> want, Runnable body) {
+        seen++;
         try {
             body.run();
             report(call + " threw nothing, due is " + want.getSimpleName());
@@ -61,9 +68,6 @@ final class Check {
             if (!isThrownByRoom(thrown)) {
                 report(call + " let another class throw: " + thrown);
             }
-        }
-        if (room.digest() != before) {
-            report(call + " threw, and changed something");
         }
     }
 
