@@ -160,7 +160,8 @@ public final class BookingEdgesTest {
         states.illegalState("book, a day of one that is RUNNING", (room, n) -> room.book(0, 1, 0, n, 20, 1), 3, 8, 9);
         states.taken("book, from the day behind one that is RUNNING", 7, (room, n) -> room.book(0, 1, 0, 10, n, 1), 10);
         states.taken("book, days of one that is CANCELLED", 7, (room, n) -> room.book(0, 3, 0, n, 52, 1), 3, 50, 52);
-        states.taken("book, days of ones that are LOST and CANCELLED", 7, (room, n) -> room.book(0, 3, 1, n, 6, 1), 4, 6);
+        states.taken("book, days of ones that are LOST and CANCELLED", 7,
+                (room, n) -> room.book(0, 3, 1, n, 6, 1), 4, 6);
         states.taken("book, those days in another LAND", 7, (room, n) -> room.book(0, n, 0, 50, 52, 1), 1, 2, 3);
         states.taken("book, those days in another MEDIUM", 7, (room, n) -> room.book(0, 0, n, 50, 52, 1), 1, 2, 3);
     }
@@ -212,13 +213,42 @@ public final class BookingEdgesTest {
         ready.outOfBounds("swap(#, 0) of none", (room, n) -> room.swap(n, 0), MIN, -1, 0, 1, MAX);
         states.taken("swap(0, 1) of 7", 0, (room, n) -> room.swap(0, 1), 0);
         states.outOfBounds("swap(#, 1) of 7", (room, n) -> room.swap(n, 1), MIN, -1, 7, 15, MAX);
-        full.outOfBounds("swap(#, 1) of 16", (room, n) -> room.swap(n, 1), -1, 16);
+        Twins sixteen = new Twins(check, () -> sixteenAndTwelveFit());
+        sixteen.taken("swap(#, 1) of 16", 0, (room, n) -> room.swap(n, 1), 0, 15);
+        sixteen.outOfBounds("swap(#, 1) of 16", (room, n) -> room.swap(n, 1), -1, 16);
+    }
+
+    /** 16 bookings of piece 0; 12 pieces, each fit everywhere. */
+    private static BrandRoom sixteenAndTwelveFit() {
+        BrandRoom room = twelvePieces();
+        for (int piece = 1; piece < 12; piece++) {
+            for (int land = 0; land < 4; land++) {
+                room.approve(piece, land);
+            }
+        }
+        for (int place = 0; place < 16; place++) {
+            room.book(0, place / 4, place % 4, 50, 52, 1);
+        }
+        return room;
+    }
+
+    private static BrandRoom withPiece11() {
+        BrandRoom room = sixteenAndTwelveFit();
+        for (int place = 0; place < 16; place++) {
+            room.swap(place, 11 - place % 4);
+        }
+        return room;
     }
 
     private static void swapNoSuchPiece() {
         check.promise("16: throws IndexOutOfBoundsException if there is no such PIECE");
         states.outOfBounds("swap(0, #) of two", (room, n) -> room.swap(0, n), MIN, -1, 2, 11, 12, MAX);
-        full.outOfBounds("swap(0, #) of 12", (room, n) -> room.swap(0, n), -1, 12);
+        Twins twelve = new Twins(check, () -> sixteenAndTwelveFit());
+        twelve.taken("swap(0, #) of 12", 0, (room, n) -> room.swap(0, n), 1, 11);
+        twelve.outOfBounds("swap(0, #) of 12", (room, n) -> room.swap(0, n), MIN, -1, 12, MAX);
+        Twins swapped = new Twins(check, () -> withPiece11());
+        swapped.taken("swap(0, 0), that had another piece", 11, (room, n) -> room.swap(0, n), 0);
+        swapped.outOfBounds("swap(0, #) of 12, that had another piece", (room, n) -> room.swap(0, n), -1, 12);
     }
 
     private static void swapNotBooked() {

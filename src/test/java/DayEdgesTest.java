@@ -37,10 +37,20 @@ public final class DayEdgesTest {
         day98.taken("day() on day 98", 0, (room, n) -> room.day(), 0);
         Twins day99 = new Twins(check, () -> Desks.onDay(Desks.states(), 99));
         day99.illegalState("day() on day 99", (room, n) -> room.day(), 0);
+        Twins running = new Twins(check, () -> runningOnDay99());
+        running.illegalState("day() on day 99, one is ON, one PULLED", (room, n) -> room.day(), 0);
         BrandRoom bare = Desks.onDay(new BrandRoom(), 98);
         check.due("day() on day 98", bare.day(), 0);
         check.due("TODAY", bare.many(10), 99);
         check.illegalState("day() on day 99", bare, () -> bare.day());
+    }
+
+    private static BrandRoom runningOnDay99() {
+        BrandRoom room = Desks.onDay(Desks.ready(), 90);
+        room.hold(0, 1);
+        room.book(0, 0, 0, 91, 99, 1);
+        room.book(0, 1, 0, 91, 99, 1);
+        return Desks.onDay(room, 99);
     }
 
     private static void returnsHowMany() {

@@ -2,7 +2,7 @@ import java.util.ArrayList;
 import java.util.List;
 import java.util.function.Supplier;
 
-/** Calls on desks that are made alike, each on a new one; one that throws is compared with a desk that was spared it. */
+/** Calls on desks that are made alike, each on a new one; one that throws is compared with one that was spared it. */
 final class Twins {
     /** A call with a number in it; a boolean answers 1 or 0. */
     interface Call {
@@ -40,7 +40,8 @@ final class Twins {
             for (int batch = 0; batch < Looks.BATCHES; batch++) {
                 BrandRoom room = desks.get();
                 check.dueThrown(name, want, () -> call.on(room, number));
-                check.due(name + " changes nothing: same answers", spared.get(batch).equals(Looks.of(room, batch)), true);
+                boolean same = spared.get(batch).equals(Looks.of(room, batch));
+                check.due(name + " changes nothing: same answers", same, true);
             }
         }
     }
