@@ -26,6 +26,7 @@ public final class TermsTest {
         swapIsOfTheSameFormat();
         swapIsFitInThatLandToday();
         swapHasRightsOnEachDay();
+        swapHasRightsInThatLand();
         swapHasRightsOfAllItsAssets();
         swapIsInNoBookingOfThatLand();
         swapIsTheSmallestNumber();
@@ -364,6 +365,21 @@ public final class TermsTest {
         Desks.onDay(room, 29);
         room.rights(1, 1, 29, 99);
         check.due("swapFor(0), none on days gone by", room.swapFor(0), -1);
+    }
+
+    /** The land of the booking is 2, its medium 1: rights in land 1 do not count. */
+    private static void swapHasRightsInThatLand() {
+        check.promise("5: has RIGHTS there");
+        BrandRoom room = twoPieces(0);
+        room.approve(1, 2);
+        room.book(0, 2, 1, 20, 30, 1);
+        room.rights(1, 4, 0, 99);
+        check.due("swapFor(1), rights in its land alone", room.swapFor(1), 1);
+        room.rights(1, 11, 0, 99);
+        check.due("swapFor(1), rights in all other lands", room.swapFor(1), -1);
+        check.illegalState("swap(1, 1), rights in all other lands", room, () -> room.swap(1, 1));
+        room.rights(1, 4, 0, 99);
+        check.due("swap(1, 1)", room.swap(1, 1), 0);
     }
 
     private static void swapHasRightsOfAllItsAssets() {

@@ -39,12 +39,14 @@ public final class WhatWouldBeEdgesTest {
         swapForAnyState();
         offInNoSuchBooking();
         offInTodayAndLater();
+        offInOfItsLand();
         offInAnyState();
         lostInDays();
         lostInNoMoreThanThereAre();
         lostInThoseThatAreNotLost();
         lostInNothingElseWasTold();
         lostInTellsThePlacesApart();
+        lostInCountsWhatWasMovedBefore();
         reachWithNoSuchBooking();
         reachWithNoneThatIs();
         reachWithOneThatIsOn();
@@ -196,6 +198,23 @@ public final class WhatWouldBeEdgesTest {
         check.due("offIn(1) with rights again", room.offIn(1), 0);
     }
 
+    /** Its land is 2, its medium 1: what is told of land 1 does not count. */
+    private static void offInOfItsLand() {
+        check.promise("26: the REASON of its PIECE there");
+        BrandRoom room = Desks.ready();
+        room.book(0, 2, 1, 5, 8, 1);
+        room.rights(0, 4, 0, 99);
+        check.due("offIn(0), rights in its land alone", room.offIn(0), 0);
+        room.rights(0, 11, 0, 99);
+        check.due("offIn(0), rights in all other lands", room.offIn(0), 4);
+        room.rights(0, 15, 0, 99);
+        room.hold(0, 1);
+        check.due("offIn(0), held in another land", room.offIn(0), 0);
+        room.hold(0, 2);
+        room.approve(0, 1);
+        check.due("offIn(0), held in its land alone", room.offIn(0), 4);
+    }
+
     private static void offInAnyState() {
         check.promise("26: (whatever its state is)");
         BrandRoom room = Desks.states();
@@ -304,6 +323,29 @@ public final class WhatWouldBeEdgesTest {
         check.due("lostIn(1), a piece that is fit in another land", room.lostIn(1), 1);
         room.approve(1, 1);
         check.due("lostIn(1), a piece that is fit there", room.lostIn(1), 0);
+    }
+
+    /** Its deadlines are days 1, 3, 5 and 7: at the fourth one it was moved 3 times already. */
+    private static void lostInCountsWhatWasMovedBefore() {
+        check.promise("27: LOST as day() has it: or was MOVED 3 times already");
+        BrandRoom room = Desks.ready();
+        room.piece(0, 1);
+        room.approve(1, 0);
+        room.book(0, 0, 0, 4, 4, 1);
+        room.swap(0, 1);
+        room.hold(0, 0);
+        room.hold(1, 0);
+        for (int day = 0; day <= 6; day++) {
+            Desks.onDay(room, day);
+            check.due("MOVED on day " + day, room.ofBooking(0, 8), (day + 1) / 2);
+            check.due("lostIn(" + (7 - day) + ") on day " + day, room.lostIn(7 - day), 1);
+            check.due("lostIn(30)", room.lostIn(30), 1);
+            if (day < 6) {
+                check.due("lostIn(" + (6 - day) + ") on day " + day, room.lostIn(6 - day), 0);
+            }
+        }
+        room.approve(1, 0);
+        check.due("lostIn(30) on day 6, its piece is fit", room.lostIn(30), 0);
     }
 
     private static void reachWithNoSuchBooking() {
