@@ -49,18 +49,21 @@ final class Check {
 
     private void throwing(String call, BrandRoom room, Class<?> want, Runnable body) {
         long before = room.digest();
-        dueThrown(call, want, body);
-        if (room.digest() != before) {
+        if (dueThrown(call, want, body) && room.digest() != before) {
             report(call + " threw, and changed something");
         }
     }
 
-    /** BrandRoom itself has to throw the very class, not the Java machine or the library. */
-    void dueThrown(String call, Class<?> want, Runnable body) {
+    /**
+     * BrandRoom itself has to throw the very class, not the Java machine or the library. Answers whether anything was
+     * thrown: a desk that took what it has to refuse may keep what is asked of it next from ending.
+     */
+    boolean dueThrown(String call, Class<?> want, Runnable body) {
         seen++;
         try {
             body.run();
             report(call + " threw nothing, due is " + want.getSimpleName());
+            return false;
         } catch (RuntimeException thrown) {
             if (thrown.getClass() != want) {
                 report(call + " threw " + thrown + ", due is " + want.getSimpleName());
@@ -68,6 +71,7 @@ final class Check {
             if (!isThrownByRoom(thrown)) {
                 report(call + " let another class throw: " + thrown);
             }
+            return true;
         }
     }
 
